@@ -356,7 +356,7 @@ public final class BundleMill {
         return bundles;
     }
 
-    /** The cycles that a run takes in the outcome that is tried, NONE when its turns are too many. */
+    /** How many cycles a run takes in the outcome tried, NONE when its turns are too many. */
     private int cyclesOfRun() {
         tried.begin(told.memory);
         int cycles = 0;
@@ -719,8 +719,9 @@ public final class BundleMill {
         }
 
         private void weighEdge(int at, int edge, int interval, int farthest) {
-            if (distance[edge] != NONE && distance[edge] <= farthest) {
-                weight[at] = Math.max(weight[at], delay[edge] - interval * distance[edge]);
+            int asked = delay[edge] - interval * distance[edge];
+            if (distance[edge] != NONE && distance[edge] <= farthest && asked > weight[at]) {
+                weight[at] = asked;
             }
         }
 

@@ -1,3 +1,7 @@
+import java.util.ArrayList;
+import java.util.List;
+import java.util.function.Consumer;
+
 /**
  * All promises, on many made-up programs: what the program answers is compared with the model, and
  * with a machine that runs the bundles.
@@ -5,9 +9,14 @@
 public final class GeneratedTest {
     private static final int PROGRAMS = 6000;
 
+    private static final int MOST_CALLS = 512;
+
     private final Checks checks = new Checks("GeneratedTest");
-    private BundleMill mill = new BundleMill();
+    private final List<Consumer<BundleMill>> steps = new ArrayList<>();
     private Model model = new Model();
+    private BundleMill mill = new BundleMill();
+    private int calls = 0;
+    private int mostCalls = 0;
     private int loopsByModulo = 0;
     private int loopsByList = 0;
     private int guards = 0;
@@ -26,14 +35,15 @@ public final class GeneratedTest {
     private void all(int programs, int first) {
         for (int seed = first; seed < first + programs; seed++) {
             Numbers numbers = new Numbers(seed);
-            if (numbers.once(3)) {
-                mill = new BundleMill();
+            if (seed % 2 == 0 || numbers.once(2)) {
+                steps.clear();
                 model = new Model();
             }
-            makeMachine(seed, numbers);
-            makeProgram(seed, numbers);
+            makeMachine(numbers);
+            makeProgram(numbers);
             compareProgram(seed, numbers);
         }
+        checks.holds("calls of one object: " + mostCalls, mostCalls <= MOST_CALLS);
         checks.holds("modulo schedules " + loopsByModulo, loopsByModulo > programs / 10);
         checks.holds("loops by list " + loopsByList, loopsByList > 0);
         checks.holds("later tries " + laterTries, laterTries > 0);
@@ -49,7 +59,25 @@ public final class GeneratedTest {
         checks.end();
     }
 
-    private void makeMachine(int seed, Numbers numbers) {
+    /** A new object with which all has been done that was done until now: it has calls left. */
+    private void renew() {
+        mill = new BundleMill();
+        calls = 0;
+        for (Consumer<BundleMill> step : steps) {
+            Checks.told(() -> {
+                step.accept(mill);
+                return "done";
+            });
+            countCall();
+        }
+    }
+
+    private void countCall() {
+        calls++;
+        mostCalls = Math.max(mostCalls, calls);
+    }
+
+    private void makeMachine(Numbers numbers) {
         int most = numbers.once(2) ? 3 : 8;
         int alus = numbers.once(2) ? 1 : numbers.from(1, 4);
         int ports = numbers.from(1, 2);
@@ -57,29 +85,29 @@ public final class GeneratedTest {
         int mul = numbers.from(1, most);
         int div = numbers.from(1, most);
         int load = numbers.from(1, most);
-        mill.machine(alus, ports, plain, mul, div, load);
+        steps.add(x -> x.machine(alus, ports, plain, mul, div, load));
         model.machine(alus, ports, plain, mul, div, load);
-        mill.erase();
+        steps.add(BundleMill::erase);
         model.erase();
         for (int k = 0; k < 8; k++) {
             int address = numbers.from(-70, 70);
             int value = numbers.from(-3, 5);
-            mill.poke(address, value);
+            steps.add(x -> x.poke(address, value));
             model.poke(address, value);
         }
     }
 
     private void block(int end, int v, int t, int f) {
-        mill.block(end, v, t, f);
+        steps.add(x -> x.block(end, v, t, f));
         model.block(end, v, t, f);
     }
 
     private void operation(int code, int d, int a, int b, int n, int guard) {
-        mill.operation(code, d, a, b, n, guard);
+        steps.add(x -> x.operation(code, d, a, b, n, guard));
         model.operation(code, d, a, b, n, guard);
     }
 
-    private void makeProgram(int seed, Numbers numbers) {
+    private void makeProgram(Numbers numbers) {
         if (numbers.once(2)) {
             makeLoop(numbers);
         } else if (numbers.once(2)) {
@@ -177,8 +205,9 @@ public final class GeneratedTest {
         int guarded = numbers.once(8) ? 2 : 1000;
         int wild = numbers.once(8) ? 2 : 1000;
         for (int k = 0; k < count; k++) {
-            operation(numbers.below(10), numbers.once(wild) || head ? numbers.below(5) : numbers.from(3, 4),
-                    numbers.below(5), numbers.below(5), numbers.from(-3, 3), guard(numbers, 4, guarded));
+            int d = numbers.once(wild) || head ? numbers.below(5) : numbers.from(3, 4);
+            operation(numbers.below(10), d, numbers.below(5), numbers.below(5),
+                    numbers.from(-3, 3), guard(numbers, 4, guarded));
         }
     }
 
@@ -197,7 +226,9 @@ public final class GeneratedTest {
     }
 
     private void compareProgram(int seed, Numbers numbers) {
+        renew();
         same(seed + " compile()", mill::compile, model::compile);
+        steps.add(BundleMill::compile);
         for (int x = -1; x <= model.given.size(); x++) {
             compareBlock(seed, x);
         }
@@ -217,6 +248,7 @@ public final class GeneratedTest {
     }
 
     private void compareBlock(int seed, int x) {
+        renew();
         String where = seed + " block " + x;
         same(where + " filled", () -> mill.filled(x), () -> model.filled(x));
         for (int what = -1; what <= 7; what++) {
@@ -244,9 +276,11 @@ public final class GeneratedTest {
     }
 
     private void compareRun(int seed) {
+        renew();
         int[] before = model.memory.clone();
         String cycles = Checks.told(model::run);
         same(seed + " run()", mill::run, () -> cycles);
+        steps.add(BundleMill::run);
         for (int what = -1; what <= 3; what++) {
             int k = what;
             same(seed + " result " + k, () -> mill.result(k), () -> model.result(k));
@@ -260,7 +294,8 @@ public final class GeneratedTest {
             same(seed + " variable " + k, () -> mill.variable(k), () -> model.variable(k));
         }
         for (int address = 0; address < 64; address++) {
-            checks.same(seed + " peek " + address, mill.peek(address), model.peek(address));
+            int k = address;
+            same(seed + " peek " + k, () -> mill.peek(k), () -> model.peek(k));
         }
         refused += cycles.equals("throws." + Checks.UNSUPPORTED) ? 1 : 0;
         if (!cycles.startsWith("throws")) {
@@ -271,7 +306,13 @@ public final class GeneratedTest {
     }
 
     private void compareMachine(int seed, int[] before, long cycles) {
-        OpenMachine machine = new OpenMachine(mill, model, before);
+        OpenMachine machine = new OpenMachine(model, before);
+        for (int x = 0; x < model.parts.size(); x++) {
+            if (!model.parts.get(x).gone) {
+                renew();
+                machine.read(mill, x);
+            }
+        }
         checks.same(seed + " cycles of the machine", machine.go(), cycles);
         checks.holds(seed + " pipelines are empty at a block's end", !machine.late);
         checks.holds(seed + " trap of the machine", machine.trapped == model.trapped);
@@ -287,6 +328,7 @@ public final class GeneratedTest {
     }
 
     private void same(String what, Checks.Call got, Checks.Call due) {
+        countCall();
         checks.same(what, Checks.told(got), Checks.told(due));
     }
 }

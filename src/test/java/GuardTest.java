@@ -46,7 +46,8 @@ public final class GuardTest {
         mill.compile();
         for (int y = 0; y < blocks; y++) {
             int block = y;
-            CHECKS.same(what + ": block " + y, Checks.told(() -> mill.shape(block, 0) >= 0), "true");
+            CHECKS.same(what + ": block " + y, Checks.told(() -> mill.shape(block, 0) >= 0),
+                    "true");
         }
     }
 

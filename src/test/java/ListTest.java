@@ -1,5 +1,5 @@
 /** Promises 13 to 16 for list schedules: edges, heights, cycles, bundles. */
-public final class ListTest {
+public final class ListTest extends Written {
     private static final Checks CHECKS = new Checks("ListTest");
 
     public static void main(String[] args) {
@@ -11,10 +11,6 @@ public final class ListTest {
         packed();
         wrongInputs();
         CHECKS.end();
-    }
-
-    private static int[] op(int code, int d, int a, int b, int n, int guard) {
-        return new int[] {code, d, a, b, n, guard};
     }
 
     private static BundleMill mill(int[]... ops) {
@@ -149,14 +145,6 @@ public final class ListTest {
         CHECKS.same("the last row", mill.bundle(0, 5, false), 0);
         CHECKS.refuses(Checks.INDEX, "one behind it", () -> mill.bundle(0, 6, false));
         CHECKS.same("filled", mill.filled(0), 10 / 36.0);
-    }
-
-    private static long bundle(int... slots) {
-        long bits = 0;
-        for (int k = 0; k < slots.length; k++) {
-            bits |= (long) slots[k] << (8 * k);
-        }
-        return bits;
     }
 
     private static void wrongInputs() {

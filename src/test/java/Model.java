@@ -240,7 +240,7 @@ final class Model {
         return sum <= 10;
     }
 
-    private int latency(Op op) {
+    int latency(Op op) {
         switch (op.code()) {
             case 4:
                 return machine[3];
@@ -413,7 +413,8 @@ final class Model {
         for (int k = 0; k < count; k++) {
             for (int i = 0; i < count; i++) {
                 for (int j = 0; j < count; j++) {
-                    far[i][j] = Math.max(far[i][j], Math.max(Long.MIN_VALUE / 4, far[i][k] + far[k][j]));
+                    long over = Math.max(Long.MIN_VALUE / 4, far[i][k] + far[k][j]);
+                    far[i][j] = Math.max(far[i][j], over);
                 }
             }
         }
@@ -471,9 +472,10 @@ final class Model {
                 early = Math.max(early, cycle[edge.i()] + edge.delay() - ii * edge.distance());
             }
         }
+        int units = machine[part.ops.get(k).port() ? 1 : 0];
         int got = -1;
         for (int c = early; c <= early + ii - 1 && got < 0; c++) {
-            if (inRow(part, cycle, k, c % ii, ii).size() < machine[part.ops.get(k).port() ? 1 : 0]) {
+            if (inRow(part, cycle, k, c % ii, ii).size() < units) {
                 got = c;
             }
         }
@@ -563,10 +565,11 @@ final class Model {
 
     /** The cycles until a trap, 0 when there is none. */
     private static long pass(Part part, int times, int[] cells, int[] vars, List<Integer> outs) {
+        int[] cycle = part.ii > 0 ? part.modulo : part.list;
         for (int time = 0; time < times; time++) {
             for (int k = 0; k < part.ops.size(); k++) {
                 if (!perform(part.ops.get(k), cells, vars, outs)) {
-                    return (long) time * part.rows() + (part.ii > 0 ? part.modulo : part.list)[k] + 1;
+                    return (long) time * part.rows() + cycle[k] + 1;
                 }
             }
         }

@@ -1,5 +1,5 @@
 /** Promises 13 to 16 for loops: MII, the tries, stages and bundles. */
-public final class ModuloTest {
+public final class ModuloTest extends Written {
     private static final Checks CHECKS = new Checks("ModuloTest");
 
     public static void main(String[] args) {
@@ -11,12 +11,9 @@ public final class ModuloTest {
         tooManyStages();
         drivenOut();
         nextInterval();
+        lastSteps();
         noneGoes();
         CHECKS.end();
-    }
-
-    private static int[] op(int code, int d, int a, int b, int n, int guard) {
-        return new int[] {code, d, a, b, n, guard};
     }
 
     /** A loop whose count is variable 11, compiled. */
@@ -153,7 +150,8 @@ public final class ModuloTest {
         BundleMill fifteen = loop(machine(2, 2, 1, 8, 8, 7), op(4, 1, 0, 0, 0, 0),
                 op(7, 2, 1, 1, 0, 0), op(9, 0, 2, 0, 0, 0));
         shape("stage 15", fifteen, 1, 1, 16, 0, 8, 15);
-        CHECKS.same("its row", fifteen.bundle(0, 0, true), bundle(1, 0, 0, 0, 2 + 16 * 8, 3 + 16 * 15));
+        CHECKS.same("its row", fifteen.bundle(0, 0, true),
+                bundle(1, 0, 0, 0, 2 + 16 * 8, 3 + 16 * 15));
     }
 
     /**
@@ -173,6 +171,18 @@ public final class ModuloTest {
         shape("the next interval", mill, 2, 3, 1, 0, 0, 2);
     }
 
+    /** The first goes in the last of the 36 steps it has, the second would in one more than 30. */
+    private static void lastSteps() {
+        BundleMill inTime = loop(machine(1, 1, 1, 2, 8, 2), op(4, 2, 3, 2, 0, 0),
+                op(7, 3, 2, 2, 0, 0), op(0, 4, 2, 3, 0, 0), op(3, 2, 3, 2, 0, 0),
+                op(1, 1, 2, 3, 1, 0), op(4, 4, 3, 2, 1, 0));
+        CHECKS.same("the last step", inTime.shape(0, 3), 6);
+        BundleMill late = loop(machine(1, 1, 2, 3, 8, 2), op(0, 2, 3, 2, 0, 0),
+                op(0, 3, 4, 4, -1, 0), op(4, 2, 2, 2, -1, 0), op(2, 1, 4, 2, 0, 0),
+                op(3, 1, 1, 2, 0, 0));
+        CHECKS.same("one step too many", late.shape(0, 3), 7);
+    }
+
     /** The STORE and the LOAD drive one another out, with the 3 that is MII and L. */
     private static void noneGoes() {
         BundleMill mill = loop(machine(1, 1, 1, 1, 8, 2), op(8, 0, 3, 1, 0, 0),
@@ -184,13 +194,5 @@ public final class ModuloTest {
         CHECKS.refuses(Checks.INDEX, "no modulo rows", () -> mill.bundle(0, 0, true));
         CHECKS.same("filled", mill.filled(0), 3 / 6.0);
         CHECKS.same("bundles", mill.compile(), 3);
-    }
-
-    private static long bundle(int... slots) {
-        long bits = 0;
-        for (int k = 0; k < slots.length; k++) {
-            bits |= (long) slots[k] << (8 * k);
-        }
-        return bits;
     }
 }

@@ -1,17 +1,23 @@
 import java.util.ArrayList;
+import java.util.HashMap;
 import java.util.List;
+import java.util.Map;
 
 /**
  * A machine without interlocks that runs the very bundles that a BundleMill answers: what is
- * written stands in the pipeline until its latency is over, and who reads before has what was there.
+ * written stands in the pipeline until its latency is over; who reads before has what was there.
  */
 final class OpenMachine {
     /** What is on its way to a variable or to a cell. */
     private record Write(long cycle, boolean cell, int where, int value) {
     }
 
-    private final BundleMill mill;
+    /** A block's schedule: its rows, and what THE MACHINE asks of it. */
+    private record Rows(long[] bundles, int ii, int stages, int end) {
+    }
+
     private final Model model;
+    private final Map<Integer, Rows> blocks = new HashMap<>();
     final int[] memory;
     final int[] variables = new int[12];
     final List<Integer> outputs = new ArrayList<>();
@@ -21,10 +27,24 @@ final class OpenMachine {
     long cycle = 0;
 
     /** The model has compiled the same program, and tells what the operations are. */
-    OpenMachine(BundleMill mill, Model model, int[] memory) {
-        this.mill = mill;
+    OpenMachine(Model model, int[] memory) {
         this.model = model;
         this.memory = memory.clone();
+    }
+
+    /** Reads the bundles of a block that is not gone. */
+    void read(BundleMill mill, int x) {
+        int ii = mill.shape(x, 3);
+        long[] bundles = new long[ii > 0 ? ii : mill.shape(x, 1)];
+        for (int row = 0; row < bundles.length; row++) {
+            bundles[row] = mill.bundle(x, row, ii > 0);
+        }
+        int end = 0;
+        List<Model.Op> ops = model.parts.get(x).ops;
+        for (int k = 0; k < ops.size() && ii > 0; k++) {
+            end = Math.max(end, mill.place(x, k, 4) + model.latency(ops.get(k)));
+        }
+        blocks.put(x, new Rows(bundles, ii, mill.shape(x, 4), end));
     }
 
     /** The cycles that the run took. */
@@ -48,26 +68,20 @@ final class OpenMachine {
     }
 
     private void goThrough(Model.Part part, int x) {
+        Rows rows = blocks.get(x);
         int times = part.end == 3 ? variables[part.v] : 1;
-        int ii = mill.shape(x, 3);
-        if (ii == 0) {
+        if (rows.ii() == 0) {
             for (int time = 0; time < times && !trapped; time++) {
-                rows(part, x, mill.shape(x, 1), false, 0, 1);
+                pass(part, rows.bundles(), 0, 1);
             }
             return;
         }
         if (times < 1) {
             return;
         }
-        int stages = mill.shape(x, 4);
-        long start = cycle;
-        for (int pass = 0; pass < times + stages - 1 && !trapped; pass++) {
-            rows(part, x, ii, true, pass, times);
-        }
-        long end = start + (long) (times - 1) * ii;
-        for (int k = 0; k < part.ops.size(); k++) {
-            end = Math.max(end, start + (long) (times - 1) * ii + mill.place(x, k, 4)
-                    + latency(part.ops.get(k)));
+        long end = cycle + (long) (times - 1) * rows.ii() + rows.end();
+        for (int pass = 0; pass < times + rows.stages() - 1 && !trapped; pass++) {
+            pass(part, rows.bundles(), pass, times);
         }
         while (!trapped && cycle < end) {
             land();
@@ -75,10 +89,10 @@ final class OpenMachine {
         }
     }
 
-    private void rows(Model.Part part, int x, int count, boolean modulo, int pass, int times) {
-        for (int row = 0; row < count && !trapped; row++) {
+    private void pass(Model.Part part, long[] bundles, int pass, int times) {
+        for (int row = 0; row < bundles.length && !trapped; row++) {
             land();
-            long bits = mill.bundle(x, row, modulo);
+            long bits = bundles[row];
             List<Write> fresh = new ArrayList<>();
             for (int slot = 0; slot < 6; slot++) {
                 int entry = (int) (bits >> (8 * slot)) & 255;
@@ -125,25 +139,8 @@ final class OpenMachine {
         } else if (op.code() == 6 && b == 0) {
             trapped = true;
         } else {
-            fresh.add(new Write(cycle + latency(op), false, op.d(),
+            fresh.add(new Write(cycle + model.latency(op), false, op.d(),
                     Model.value(op, a, b, memory[address])));
-        }
-    }
-
-    private int latency(Model.Op op) {
-        int[] sizes = model.machine;
-        switch (op.code()) {
-            case 4:
-                return sizes[3];
-            case 6:
-                return sizes[4];
-            case 7:
-                return sizes[5];
-            case 8:
-            case 9:
-                return 1;
-            default:
-                return sizes[2];
         }
     }
 }

@@ -28,7 +28,7 @@ public final class SettingsTest {
             sizes[k] = most[k];
             BundleMill mill = compiledMill();
             setMachine(mill, sizes);
-            CHECKS.refuses(Checks.STATE, "shape when it must be compiled anew", () -> mill.shape(0, 0));
+            CHECKS.refuses(Checks.STATE, "shape behind machine", () -> mill.shape(0, 0));
         }
     }
 
