@@ -963,6 +963,10 @@ public final class BundleMill {
             return NONE;
         }
 
+        /**
+         * The document asks for it, though no try needs it: from MII on there are never more
+         * operations of a sort than its units in all rows, so one of these is free.
+         */
         private void driveOut(Graph graph, Plan plan, int k, int row) {
             int least = NONE;
             for (int other = 0; other < graph.count; other++) {

@@ -55,9 +55,9 @@ public final class FaceTest {
             }
         }
         CHECKS.same("the face", got.toString(), due.toString());
-        for (Method method : BundleMill.class.getDeclaredMethods()) {
-            CHECKS.holds("a private method bears a public name: " + method,
-                    Modifier.isPublic(method.getModifiers()) || !names.contains(method.getName()));
+        noFaceName(BundleMill.class, names);
+        for (Class<?> one : BundleMill.class.getDeclaredClasses()) {
+            noFaceName(one, names);
         }
         Constructor<?>[] constructors = BundleMill.class.getDeclaredConstructors();
         CHECKS.same("constructors", constructors.length, 1);
@@ -67,6 +67,13 @@ public final class FaceTest {
                     || field.getName().equals("NONE"));
         }
         CHECKS.holds("final", Modifier.isFinal(BundleMill.class.getModifiers()));
+    }
+
+    private static void noFaceName(Class<?> one, Set<String> names) {
+        for (Method method : one.getDeclaredMethods()) {
+            CHECKS.holds("a method of the face's name inside: " + method,
+                    Modifier.isPublic(method.getModifiers()) || !names.contains(method.getName()));
+        }
     }
 
     private static void inside() {
