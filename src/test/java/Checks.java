@@ -11,6 +11,8 @@ final class Checks {
     private static final int MOST_TOLD = 40;
 
     private final String name;
+    private String sentence = "";
+    private int sentences = 0;
     private int asked = 0;
     private int wrong = 0;
 
@@ -26,6 +28,16 @@ final class Checks {
     /** A call without one. */
     interface Deed {
         void happen();
+    }
+
+    /** The cases of one sentence of the document: they must ask something, and throw nothing. */
+    void sentence(String words, Deed cases) {
+        sentence = " [" + words + "]";
+        sentences++;
+        int before = asked;
+        refusesNone(cases);
+        holds("something is asked", asked > before);
+        sentence = "";
     }
 
     void same(String what, long got, long due) {
@@ -55,6 +67,14 @@ final class Checks {
         });
     }
 
+    private void refusesNone(Deed cases) {
+        try {
+            cases.happen();
+        } catch (RuntimeException e) {
+            count(false, "a case", "throws " + e, "no such throw");
+        }
+    }
+
     /** What a call answers, or which exception it throws, as a text. */
     static String told(Call call) {
         try {
@@ -66,7 +86,8 @@ final class Checks {
     }
 
     void end() {
-        System.out.println(name + ": " + asked + " checks, " + wrong + " wrong");
+        System.out.println(name + ": " + (sentences > 0 ? sentences + " sentences, " : "") + asked
+                + " checks, " + wrong + " wrong");
         if (wrong != 0 || asked == 0) {
             System.exit(1);
         }
@@ -77,7 +98,7 @@ final class Checks {
         if (!right) {
             wrong++;
             if (wrong <= MOST_TOLD) {
-                System.out.println(name + ": " + what + " answered " + got + ", due is " + due);
+                System.out.println(name + sentence + ": " + what + " answered " + got + ", due is " + due);
             }
         }
     }

@@ -1,5 +1,6 @@
 import java.lang.reflect.Constructor;
 import java.lang.reflect.Field;
+import java.lang.reflect.InvocationTargetException;
 import java.lang.reflect.Method;
 import java.lang.reflect.Modifier;
 import java.util.Arrays;
@@ -12,11 +13,24 @@ public final class FaceTest {
     private static final Checks CHECKS = new Checks("FaceTest");
     private static final int OPEN = Modifier.PUBLIC | Modifier.PROTECTED;
 
-    public static void main(String[] args) {
+    private static final int MOST_CALLS = 512;
+    private static final int[] WILD = {Integer.MIN_VALUE, -1000, -64, -13, -12, -1, 3, 4, 5, 6, 7,
+        9, 10, 11, 12, 13, 63, 64, 1000, Integer.MAX_VALUE};
+    private static final Method[] FACE = publicMethods();
+
+    public static void main(String[] args) throws IllegalAccessException {
         face();
         inside();
-        severalObjects();
+        anyArguments();
         CHECKS.end();
+    }
+
+    /** In an order that is always the same. */
+    private static Method[] publicMethods() {
+        Method[] all = BundleMill.class.getDeclaredMethods();
+        Arrays.sort(all, (one, other) -> told(one).compareTo(told(other)));
+        return Arrays.stream(all).filter(one -> Modifier.isPublic(one.getModifiers()))
+                .toArray(Method[]::new);
     }
 
     private static String told(Method method) {
@@ -98,18 +112,35 @@ public final class FaceTest {
         CHECKS.holds("fields of " + one + ": " + count, count <= 20);
     }
 
-    /** What one object is told another one does not know. */
-    private static void severalObjects() {
-        BundleMill one = new BundleMill();
-        BundleMill other = new BundleMill();
-        one.poke(3, 33);
-        one.machine(1, 1, 1, 1, 1, 1);
-        one.block(0, 0, 0, 0);
-        one.operation(9, 0, 0, 0, 0, 0);
-        one.compile();
-        one.run();
-        CHECKS.same("memory", other.peek(3), 0);
-        CHECKS.same("outputs", other.result(0), 0);
-        CHECKS.refuses(Checks.STATE, "blocks", other::compile);
+    /** Rule 7: a call throws nothing but what its face tells, whatever it is asked. */
+    private static void anyArguments() throws IllegalAccessException {
+        for (int seed = 1; seed <= 400; seed++) {
+            Numbers numbers = new Numbers(seed);
+            BundleMill mill = new BundleMill();
+            for (int call = 0; call < MOST_CALLS; call++) {
+                Method method = FACE[numbers.below(FACE.length)];
+                if (!method.getName().equals("erase") || numbers.once(20)) {
+                    askAnything(mill, method, numbers);
+                }
+            }
+        }
+    }
+
+    private static void askAnything(BundleMill mill, Method method, Numbers numbers)
+            throws IllegalAccessException {
+        Object[] arguments = new Object[method.getParameterCount()];
+        boolean wild = numbers.once(4);
+        for (int k = 0; k < arguments.length; k++) {
+            boolean flag = method.getParameterTypes()[k] == boolean.class;
+            arguments[k] = flag ? (Object) numbers.once(2)
+                    : wild && numbers.once(2) ? WILD[numbers.below(WILD.length)] : numbers.below(3);
+        }
+        try {
+            method.invoke(mill, arguments);
+        } catch (InvocationTargetException e) {
+            CHECKS.holds(method.getName() + Arrays.toString(arguments) + " throws "
+                    + e.getCause(), Arrays.asList(method.getExceptionTypes()).contains(
+                    e.getCause().getClass()));
+        }
     }
 }
