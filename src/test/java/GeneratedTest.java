@@ -108,7 +108,9 @@ public final class GeneratedTest {
     }
 
     private void makeProgram(Numbers numbers) {
-        if (numbers.once(2)) {
+        if (numbers.once(6)) {
+            makeStrides(numbers);
+        } else if (numbers.once(2)) {
             makeLoop(numbers);
         } else if (numbers.once(2)) {
             makeBranches(numbers);
@@ -142,6 +144,29 @@ public final class GeneratedTest {
         for (int v = 1; v <= variables; v++) {
             operation(9, 0, v, 0, 0, 0);
         }
+    }
+
+    /** A loop of LOADs and STOREs of one variable and its STEP, which meet some times behind. */
+    private void makeStrides(Numbers numbers) {
+        block(1, 0, 1, 0);
+        operation(0, 0, 0, 0, numbers.from(1, 90), 0);
+        block(3, 0, 2, 0);
+        int count = numbers.from(3, 8);
+        int[] amounts = {1, -1, 2, -2, 3, 16, 31, 32, 33};
+        int amount = amounts[numbers.below(amounts.length)];
+        int stepped = numbers.below(count);
+        for (int k = 0; k < count; k++) {
+            if (k == stepped) {
+                operation(1, 1, 1, 0, amount, 0);
+            } else if (numbers.once(4)) {
+                operation(numbers.from(2, 4), numbers.from(2, 5), numbers.from(2, 5),
+                        numbers.from(2, 5), 0, 0);
+            } else {
+                operation(numbers.from(7, 8), numbers.from(2, 5), 1, numbers.from(2, 5),
+                        numbers.once(3) ? numbers.from(-32, 31) : numbers.from(-2, 2), 0);
+            }
+        }
+        block(0, 0, 0, 0);
     }
 
     private static int guard(Numbers numbers, int variables, int in) {

@@ -365,9 +365,14 @@ public final class GuardTest extends Written {
             mill.run();
             CHECKS.same("done by " + v, mill.variable(1), v != 0 ? 10 : 20);
         }
-        BundleMill no = mill(row(branch(0, 1, 2), 1), row(halt(), 1), row(jump(1), 1));
-        no.compile();
-        CHECKS.same("f's alone", no.place(0, 1, 1), -1);
+        for (int v = 0; v < 12; v++) {
+            BundleMill yes = compiled(mill(row(branch(v, 1, 2), 1), row(jump(2), 1),
+                    row(halt(), 1)));
+            CHECKS.same("t's alone", yes.place(0, 1, 1), 1 + v);
+            BundleMill no = compiled(mill(row(branch(v, 1, 2), 1), row(halt(), 1),
+                    row(jump(1), 1)));
+            CHECKS.same("f's alone", no.place(0, 1, 1), -1 - v);
+        }
     }
 
     private static void endsWithJump() {

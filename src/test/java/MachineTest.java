@@ -89,6 +89,12 @@ public final class MachineTest extends Written {
             CHECKS.same("STAGES", mill.shape(1, 4), 4);
             cycles(count + " times", mill, 2 + (count + 4 - 1) * 2 + 1 + 1);
         }
+        for (int latency = 2; latency <= 8; latency += 2) {
+            BundleMill mill = counted(machine(4, 1, 1, latency, 1, 1), 5, mul(1, 2, 2), out(1),
+                    load(3, 9, 0));
+            CHECKS.same("STAGES", mill.shape(1, 4), latency / 2 + 1);
+            cycles("the last pass to its end", mill, 2 + (5 + latency / 2) * 2 + 1 + 1);
+        }
         BundleMill one = counted(machine(1, 1, 1, 1, 1, 1), 7, set(1, 0), set(2, 0));
         cycles("one stage", one, 2 + 7 * 2 + 1 + 1);
     }
@@ -175,6 +181,11 @@ public final class MachineTest extends Written {
             cycles("a trap behind " + good, mill, 2 + good * 2 + 2 + 1);
             CHECKS.same("outputs", mill.result(0), good);
         }
+        BundleMill one = counted(machine(4, 2, 1, 8, 8, 1), 9, div(2, 11, 1), mul(1, 3, 3));
+        CHECKS.same("II", one.shape(1, 3), 1);
+        CHECKS.same("DIV's cycle by list", one.place(1, 0, 3), 0);
+        CHECKS.same("DIV's cycle by modulo", one.place(1, 0, 4), 7);
+        cycles("a trap with II 1", one, 2 + 7 + 1);
     }
 
     private static int turnsOf(BundleMill mill) {

@@ -10,12 +10,14 @@ public final class MeetTest extends Written {
         CHECKS.sentence("The OFFSET of such an operation is its n", MeetTest::offsets);
         CHECKS.sentence("written by one operation alone, which is a STEP from a to a without a"
                 + " guard", MeetTest::stepped);
+        CHECKS.sentence("is written in the block", MeetTest::eachBlock);
         CHECKS.sentence("its n is the AMOUNT of a", MeetTest::amounts);
         CHECKS.sentence("and is added to the offset of those behind it", MeetTest::behindTheStep);
         CHECKS.sentence("A variable that isn't written has the amount 0", MeetTest::notWritten);
         CHECKS.sentence("one that is written otherwise is LOOSE", MeetTest::loose);
         CHECKS.sentence("at the least distance k from 0 (i before j)", MeetTest::fromZero);
         CHECKS.sentence("or 1 (otherwise)", MeetTest::fromOne);
+        CHECKS.sentence("to 64", MeetTest::farDistances);
         CHECKS.sentence("is a multiple of 64", MeetTest::multiples);
         CHECKS.sentence("without such a k not at all", MeetTest::without);
         CHECKS.sentence("with one above 0 when the block doesn't end with LOOP, not at all",
@@ -103,8 +105,28 @@ public final class MeetTest extends Written {
         meet("a STEP and a guarded SET", one, LOAD, STEP, guarded(10, set(1, 0)));
         apart("a STEP to another variable", one, LOAD, step(3, 1, 1));
         apart("a STEP, and others of other variables", one, LOAD, STEP, step(2, 2, 1), set(3, 0));
-        apart("a STEP, and a STORE and an OUT whose d it is", one, LOAD, STEP,
-                op(9, 1, 5, 5, 0, 0));
+        apart("a STEP, and an OUT whose d it is", one, LOAD, STEP, op(9, 1, 5, 5, 0, 0));
+    }
+
+    /** What was found for one block tells nothing of the next one, nor of a later program. */
+    private static void eachBlock() {
+        BundleMill mill = lay(wide(), jump(1), store(1, 1, 2), LOAD, set(1, 0));
+        lay(mill, jump(2), store(1, 1, 2), LOAD);
+        lay(mill, loop(9, 3), store(1, 1, 2), LOAD, step(1, 1, 5));
+        lay(mill, jump(4), store(1, 1, 2), LOAD);
+        halting(mill, store(1, 1, 2), load(4, 1, 1));
+        int[] due = {1, 0, 0, 0, 1};
+        for (int x = 0; x < due.length; x++) {
+            CHECKS.same("LOAD's cycle in " + x, mill.place(x, 1, 3), due[x]);
+        }
+        BundleMill loops = lay(wide(), loop(11, 1), load(4, 1, 0), step(1, 1, 1), add(5, 4, 6),
+                store(1, 1, 5));
+        lay(loops, loop(11, 2), load(4, 1, 0), step(9, 9, 1), add(5, 4, 6), store(1, 0, 5));
+        lay(loops, loop(11, 3), load(4, 1, 0), step(9, 9, 1), add(5, 4, 6), store(1, 1, 5));
+        halting(loops);
+        CHECKS.same("two times behind: MII", loops.shape(0, 2), 4);
+        CHECKS.same("the next time: MII", loops.shape(1, 2), 7);
+        CHECKS.same("never: MII", loops.shape(2, 2), 2);
     }
 
     /**
@@ -162,6 +184,10 @@ public final class MeetTest extends Written {
             }
         }
         meet("by the LOAD itself", one, load(1, 1, 0));
+        BundleMill ahead = halting(wide(), set(1, 0), one, LOAD);
+        CHECKS.same("by a SET ahead", ahead.place(0, 2, 3), ahead.place(0, 1, 3) + 1);
+        BundleMill steps = halting(wide(), STEP, one, LOAD, STEP);
+        CHECKS.same("by STEPs ahead and behind", steps.place(0, 2, 3), steps.place(0, 1, 3) + 1);
         ring("a guarded STEP", 7, 1, guarded(9, STEP));
         ring("a guarded STEP, one less", 7, -1, guarded(-9, STEP));
         ring("a STEP from another", 7, 1, step(1, 9, 1));
@@ -187,6 +213,36 @@ public final class MeetTest extends Written {
         CHECKS.same("it goes", one.shape(0, 3), 1);
         ring("the next time", 7, 0, STEP);
         ring("two times behind", 4, 1, STEP);
+    }
+
+    /** II, STAGES and the cycles by modulo of LOOPs whose operations meet in 2 to 12 times. */
+    private static void farDistances() {
+        far("2", machine(4, 1, 2, 3, 8, 5), new int[][] {load(2, 1, -3), step(1, 1, -2),
+            load(5, 1, -1), store(1, -5, 2)}, 3, 3, 3, 4, 7, 8);
+        far("3", machine(2, 1, 1, 1, 8, 2), new int[][] {store(1, 2, 2), store(1, -1, 4),
+            load(2, 1, 2), STEP}, 3, 4, 10, 9, 11, 11);
+        far("4", machine(1, 1, 1, 1, 8, 4), new int[][] {store(1, 29, 5), load(4, 1, 25),
+            load(5, 1, -2), load(5, 1, -1), STEP}, 4, 6, 21, 20, 18, 19, 21);
+        far("5", machine(4, 1, 2, 3, 8, 2), new int[][] {store(1, -2, 4), store(1, -12, 2),
+            load(4, 1, -2), step(1, 1, 2)}, 3, 6, 16, 15, 17, 16);
+        far("6", machine(3, 1, 1, 1, 8, 3), new int[][] {load(3, 1, 2), store(1, -10, 4),
+            store(1, 2, 2), load(2, 1, 2), step(1, 1, 2)}, 4, 7, 24, 25, 26, 27, 27);
+        far("7", machine(1, 1, 1, 1, 8, 2), new int[][] {store(1, 9, 3), store(1, 2, 2),
+            load(2, 1, 2), step(1, 1, -1)}, 3, 8, 21, 22, 23, 23);
+        far("9", machine(1, 1, 1, 5, 8, 4), new int[][] {store(1, -21, 3), store(1, -1, 5),
+            load(4, 1, 27), load(3, 1, 0), load(4, 1, -2), load(3, 1, 26), step(1, 1, 3)}, 6, 10,
+                57, 56, 54, 55, 58, 59, 59);
+        far("12", machine(1, 1, 3, 3, 8, 2), new int[][] {store(1, 2, 4), mul(3, 4, 3),
+            store(1, -26, 2), store(1, -2, 5), load(4, 1, 14), load(5, 1, -2), step(1, 1, 2)}, 5,
+                13, 60, 60, 61, 62, 63, 64, 62);
+    }
+
+    private static void far(String distance, BundleMill mill, int[][] ops, int... due) {
+        looping(mill, ops);
+        for (int k = 0; k < due.length; k++) {
+            CHECKS.same("in " + distance + " times: " + k,
+                    k < 2 ? mill.shape(0, 3 + k) : mill.place(0, k - 2, 4), due[k]);
+        }
     }
 
     private static void multiples() {

@@ -25,6 +25,7 @@ public final class SettingsTest extends Written {
         CHECKS.sentence("v is not 0 .. 11", () -> blockLimits(1, 11));
         CHECKS.sentence("t is not 0 .. 5", () -> blockLimits(2, 5));
         CHECKS.sentence("or f not 0 .. 5", () -> blockLimits(3, 5));
+        CHECKS.sentence("block: also where they don't count", SettingsTest::idleOfBlocks);
         CHECKS.sentence("IllegalStateException: there are 6", SettingsTest::sevenBlocks);
         CHECKS.sentence("block: It must be compiled anew", () -> mustBeCompiled("block",
                 mill -> mill.block(0, 0, 0, 0)));
@@ -39,6 +40,8 @@ public final class SettingsTest extends Written {
         CHECKS.sentence("d is not 0 .. 11", () -> operationLimits(1, 0, 11));
         CHECKS.sentence("a is not 0 .. 11", () -> operationLimits(2, 0, 11));
         CHECKS.sentence("or b is not 0 .. 11", () -> operationLimits(3, 0, 11));
+        CHECKS.sentence("operation: also where it doesn't count",
+                SettingsTest::idleOfOperations);
         CHECKS.sentence("any n", SettingsTest::anyNumber);
         CHECKS.sentence("guard not -12 .. 12", () -> operationLimits(5, -12, 12));
         CHECKS.sentence("IllegalStateException: there is no block", SettingsTest::noBlock);
@@ -141,6 +144,35 @@ public final class SettingsTest extends Written {
             CHECKS.same("the most", mill.block(block[0], block[1], block[2], block[3]), 1);
             block[k] = 0;
             CHECKS.same("the least", mill.block(block[0], block[1], block[2], block[3]), 2);
+        }
+    }
+
+    private static void idleOfBlocks() {
+        int[][] wrong = {{0, 12, 0, 0}, {0, -1, 0, 0}, {0, 0, 6, 0}, {0, 0, -1, 0}, {0, 0, 0, 6},
+            {0, 0, 0, -1}, {1, 12, 0, 0}, {1, -1, 0, 0}, {1, 0, 0, 6}, {1, 0, 0, -1},
+            {3, 0, 0, 6}, {3, 0, 0, -1}};
+        for (int[] block : wrong) {
+            CHECKS.refuses(Checks.ARGUMENT, "end " + block[0], () -> new BundleMill().block(
+                    block[0], block[1], block[2], block[3]));
+        }
+    }
+
+    private static void idleOfOperations() {
+        boolean[] d = {true, true, true, true, true, true, true, true, false, false};
+        boolean[] a = {false, true, true, true, true, true, true, true, true, true};
+        boolean[] b = {false, false, true, true, true, true, true, false, true, false};
+        for (int code = 0; code < 10; code++) {
+            for (int wrong : new int[] {-1, 12}) {
+                BundleMill mill = lay(new BundleMill(), halt());
+                for (int k = 1; k < 4; k++) {
+                    int[] op = {code, 1, 1, 1, 0, 0};
+                    op[k] = wrong;
+                    boolean counts = k == 1 ? d[code] : k == 2 ? a[code] : b[code];
+                    CHECKS.refuses(Checks.ARGUMENT, "number " + k + " of code " + code
+                            + (counts ? "" : ", which doesn't count"), () -> operate(mill, op));
+                }
+                CHECKS.same("no operation has come", operate(mill, set(0, 0)), 0);
+            }
         }
     }
 

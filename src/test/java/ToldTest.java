@@ -48,8 +48,12 @@ public final class ToldTest extends Written {
         CHECKS.same("it did", mill.result(1), 1);
         mill.erase();
         CHECKS.same("still", mill.result(1), 1);
-        run(halting(mill, set(0, 0)));
-        CHECKS.same("the next one didn't", mill.result(1), 0);
+        run(halting(mill, set(0, 3)));
+        for (int time = 0; time < 4; time++) {
+            CHECKS.same("the ones behind it didn't", mill.result(1), 0);
+            CHECKS.same("their variable", mill.variable(0), 3);
+            CHECKS.same("their cycles", mill.run(), 2);
+        }
     }
 
     private static void turns() {
