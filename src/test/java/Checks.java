@@ -8,13 +8,15 @@ final class Checks {
     static final String ELEMENT = "NoSuchElementException";
     static final String UNSUPPORTED = "UnsupportedOperationException";
 
-    private static final int MOST_TOLD = 40;
+    /** How many wrong answers of one sentence are told. */
+    private static final int MOST_TOLD = 8;
 
     private final String name;
     private String sentence = "";
     private int sentences = 0;
     private int asked = 0;
     private int wrong = 0;
+    private int told = 0;
 
     Checks(String name) {
         this.name = name;
@@ -34,6 +36,7 @@ final class Checks {
     void sentence(String words, Deed cases) {
         sentence = " [" + words + "]";
         sentences++;
+        told = 0;
         int before = asked;
         refusesNone(cases);
         holds("something is asked", asked > before);
@@ -97,7 +100,8 @@ final class Checks {
         asked++;
         if (!right) {
             wrong++;
-            if (wrong <= MOST_TOLD) {
+            told++;
+            if (told <= MOST_TOLD) {
                 System.out.println(name + sentence + ": " + what + " answered " + got + ", due is " + due);
             }
         }

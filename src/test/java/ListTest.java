@@ -60,9 +60,14 @@ public final class ListTest extends Written {
                 step(2, 1, 0), load(3, 2, 0), out(3)), 7, 4, 3, 1);
         heightsOf("the greatest", halting(new BundleMill(), set(1, 0), step(2, 1, 0),
                 mul(3, 1, 1), out(1), div(4, 3, 3)), 1 + 3 + 8, 1, 3 + 8, 1 + 8, 8);
-        heightsOf("not those of distance 1", looping(new BundleMill(), step(2, 1, 0),
-                mul(1, 5, 5)), 1 - 3 + 3, 3);
-        heightsOf("nor its own", looping(new BundleMill(), mul(1, 1, 1)), 3);
+        BundleMill behind = looping(new BundleMill(), step(2, 1, 0), mul(1, 5, 5));
+        BundleMill own = looping(new BundleMill(), mul(1, 1, 1));
+        for (int time = 0; time < 3; time++) {
+            heightsOf("not those of distance 1", behind, 1 - 3 + 3, 3);
+            heightsOf("nor its own", own, 3);
+            behind.compile();
+            own.compile();
+        }
         heightsOf("a delay below 0", halting(machine(2, 1, 1, 3, 8, 2), out(1), mul(1, 11, 11),
                 div(2, 1, 1)), 1 - 3 + 11, 3 + 8, 8);
     }

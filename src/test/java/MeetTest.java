@@ -53,6 +53,7 @@ public final class MeetTest extends Written {
         pair("STORE, LOAD", 5, 1, store(1, 0, 2), LOAD);
         pair("STORE, STORE", 2, 1, store(1, 0, 2), store(1, 0, 2));
         pair("LOAD, LOAD", 4, 0, LOAD, load(5, 1, 0));
+        pair("LOAD, LOAD that is higher", 4, 0, LOAD, load(5, 1, 0), div(6, 5, 5));
         pair("LOAD, STORE", 4, 0, LOAD, store(1, 0, 2));
         pair("STORE, SET", 1, 0, store(1, 0, 2), set(4, 0));
         pair("STORE, OUT", 1, 0, store(1, 0, 2), out(1));
@@ -215,7 +216,7 @@ public final class MeetTest extends Written {
         ring("two times behind", 4, 1, STEP);
     }
 
-    /** II, STAGES and the cycles by modulo of LOOPs whose operations meet in 2 to 12 times. */
+    /** II, STAGES and the cycles by modulo of LOOPs whose operations meet in 2 to 13 times. */
     private static void farDistances() {
         far("2", machine(4, 1, 2, 3, 8, 5), new int[][] {load(2, 1, -3), step(1, 1, -2),
             load(5, 1, -1), store(1, -5, 2)}, 3, 3, 3, 4, 7, 8);
@@ -235,6 +236,9 @@ public final class MeetTest extends Written {
         far("12", machine(1, 1, 3, 3, 8, 2), new int[][] {store(1, 2, 4), mul(3, 4, 3),
             store(1, -26, 2), store(1, -2, 5), load(4, 1, 14), load(5, 1, -2), step(1, 1, 2)}, 5,
                 13, 60, 60, 61, 62, 63, 64, 62);
+        far("13", machine(1, 1, 1, 1, 8, 2), new int[][] {store(1, -27, 5), store(1, -1, 2),
+            store(1, 19, 5), add(3, 4, 3), store(1, 3, 5), load(2, 1, -1), step(1, 1, 2)}, 5, 14,
+                65, 66, 67, 0, 68, 69, 69);
     }
 
     private static void far(String distance, BundleMill mill, int[][] ops, int... due) {

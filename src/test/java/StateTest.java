@@ -262,10 +262,13 @@ public final class StateTest extends Written {
         mill.erase();
         halting(mill);
         mill.run();
-        CHECKS.same("outputs of an empty run", mill.result(0), 0);
-        CHECKS.refuses(Checks.INDEX, "none", () -> mill.output(0));
-        CHECKS.same("it did not trap", mill.result(1), 0);
-        CHECKS.same("its turns", mill.result(2), 1);
+        for (int time = 0; time < 3; time++) {
+            CHECKS.same("outputs of an empty run", mill.result(0), 0);
+            CHECKS.refuses(Checks.INDEX, "none", () -> mill.output(0));
+            CHECKS.same("it did not trap", mill.result(1), 0);
+            CHECKS.same("its turns", mill.result(2), 1);
+            mill.run();
+        }
     }
 
     private static void beginsInBlock0() {

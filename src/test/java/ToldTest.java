@@ -146,9 +146,12 @@ public final class ToldTest extends Written {
         CHECKS.same("one not written", mill.variable(0), 0);
         mill.erase();
         run(halting(mill, set(0, MIN), set(10, MAX), set(10, -1)));
-        CHECKS.same("variable 0 of the next run", mill.variable(0), MIN);
-        CHECKS.same("written twice", mill.variable(10), -1);
-        CHECKS.same("one of the run before", mill.variable(11), 0);
+        for (int time = 0; time < 3; time++) {
+            CHECKS.same("variable 0 of the next run", mill.variable(0), MIN);
+            CHECKS.same("written twice", mill.variable(10), -1);
+            CHECKS.same("one of a run before", mill.variable(11), 0);
+            mill.run();
+        }
     }
 
     private static void afterTrap() {
