@@ -102,7 +102,8 @@ final class Checks {
             wrong++;
             told++;
             if (told <= MOST_TOLD) {
-                System.out.println(name + sentence + ": " + what + " answered " + got + ", due is " + due);
+                System.out.println(name + sentence + ": " + what + " answered " + got
+                        + ", due is " + due);
             }
         }
     }

@@ -125,9 +125,9 @@ public final class GuardTest extends Written {
 
     private static void tIsF() {
         leaves("t is f", "+++", mill(row(branch(0, 1, 1), 1), row(jump(2), 1), row(halt(), 1)));
-        BundleMill mill = mill(row(branch(0, 1, 1), 1), row(jump(1), 1));
-        CHECKS.same("it stays a BRANCH", leaves("t jumps to f, which it is", "++", mill).shape(0, 5),
-                2);
+        BundleMill mill = leaves("t jumps to f, which it is", "++", mill(
+                row(branch(0, 1, 1), 1), row(jump(1), 1)));
+        CHECKS.same("it stays a BRANCH", mill.shape(0, 5), 2);
     }
 
     private static void zeroIsNotTaken() {

@@ -103,7 +103,8 @@ public final class LanguageTest {
             }
         }
         String all = String.join("\n", lines);
-        for (String head : lines(all, "^ +[a-zA-Z\\[\\] ]+ \\w+\\([^()]*\\)\\s*(throws[^{]*)?\\{")) {
+        String method = "^ +[a-zA-Z\\[\\] ]+ \\w+\\([^()]*\\)\\s*(throws[^{]*)?\\{";
+        for (String head : lines(all, method)) {
             String inside = head.substring(head.indexOf('(') + 1, head.indexOf(')'));
             CHECKS.holds("parameters of " + head.trim(),
                     inside.split(",").length <= MOST_PARAMETERS);

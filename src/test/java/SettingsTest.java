@@ -80,7 +80,7 @@ public final class SettingsTest extends Written {
         CHECKS.same("filled", mill.filled(0), 1 / 10.0);
     }
 
-    /** A machine's number k as ten operations show it: a latency, or the units but the other one. */
+    /** A machine's number k as ten operations show it: a latency, or all units but one. */
     private static int seen(BundleMill mill, int k) {
         if (k > 1) {
             return mill.place(0, k - 2, 2);

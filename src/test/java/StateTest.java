@@ -21,7 +21,7 @@ public final class StateTest extends Written {
         CHECKS.end();
     }
 
-    /** Six blocks, the latest of ten operations, compiled, and run: 18 outputs. */
+    /** Six blocks, the latest of ten operations, compiled, and run: 12 outputs. */
     private static BundleMill story() {
         BundleMill mill = machine(3, 2, 2, 4, 6, 5);
         mill.poke(3, 33);
@@ -218,7 +218,7 @@ public final class StateTest extends Written {
         for (int what = 0; what < 3; what++) {
             all.append(mill.result(what)).append(' ');
         }
-        for (int i = 0; i <= 18; i++) {
+        for (int i = 0; i <= 12; i++) {
             int k = i;
             all.append(Checks.told(() -> mill.output(k))).append(' ');
         }
