@@ -537,6 +537,7 @@ public final class BundleMill {
             return interval > 0 ? interval : length;
         }
 
+        /** A LOOP that is never done takes the cycle in which it ends, by modulo, too. */
         int cyclesOf(int times) {
             if (times < 1) {
                 return 1;

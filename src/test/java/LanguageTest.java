@@ -3,7 +3,10 @@ import java.nio.file.Files;
 import java.nio.file.Path;
 import java.util.ArrayList;
 import java.util.List;
+import java.util.Map;
 import java.util.Set;
+import java.util.TreeMap;
+import java.util.TreeSet;
 import java.util.regex.Matcher;
 import java.util.regex.Pattern;
 
@@ -12,6 +15,8 @@ public final class LanguageTest {
     private static final Checks CHECKS = new Checks("LanguageTest");
     private static final int LONGEST = 60;
     private static final int MOST_PARAMETERS = 7;
+    private static final int MOST_DEEP = 8;
+    private static final int LEAST_METHODS = 60;
 
     /** Rule 3 and 4: no types but these, and the program's own classes. */
     private static final Set<String> TYPES = Set.of("BundleMill", "Machine", "Block", "Plan",
@@ -27,6 +32,9 @@ public final class LanguageTest {
         library(code);
         constructors(code);
         methods(code.split("\n"));
+        loops(code);
+        objects(code);
+        depths(callsOf(code));
         CHECKS.end();
     }
 
@@ -109,5 +117,62 @@ public final class LanguageTest {
             CHECKS.holds("parameters of " + head.trim(),
                     inside.split(",").length <= MOST_PARAMETERS);
         }
+    }
+
+    /** Rule 9: every loop is a for whose counter goes by one towards its bound. */
+    private static void loops(String code) {
+        CHECKS.holds("no while", !has(code, "\\b(while|do)\\b"));
+        for (String head : lines(code, "\\bfor \\(.*")) {
+            CHECKS.holds(head, head.matches(
+                    "for \\(int (\\w+) = [^;]+; \\1 <=? [^;]+; \\1\\+\\+\\) \\{")
+                    || head.matches("for \\(int (\\w+) = [^;]+; \\1 >= 0; \\1--\\) \\{"));
+        }
+    }
+
+    /** Rule 12, and the room of all calls: objects are made with the object alone. */
+    private static void objects(String code) {
+        Matcher constructor = Pattern.compile("(?s)\n    public BundleMill\\(\\) \\{.*?\n    }\n")
+                .matcher(code);
+        CHECKS.holds("a constructor", constructor.find());
+        String others = code.replace(constructor.group(), "");
+        for (String line : lines(others, "^.*\\bnew\\b.*$")) {
+            CHECKS.holds("made with the object: " + line.trim(),
+                    line.matches(" +throw new \\w+\\(\\);")
+                            || line.matches(" +final \\w+\\[] \\w+ = new \\w+\\[[^]]+];"));
+        }
+    }
+
+    /** Rule 8 and 11: no recursion, and calls at most eight deep. */
+    private static void depths(Map<String, Set<String>> called) {
+        CHECKS.holds("methods: " + called.size(), called.size() > LEAST_METHODS);
+        CHECKS.holds("compile calls others", depth(called, "compile", 0) > 2);
+        for (String name : called.keySet()) {
+            CHECKS.holds("the depth of " + name, depth(called, name, 0) <= MOST_DEEP);
+        }
+    }
+
+    /** Which names a method calls; methods of one name count as one. */
+    private static Map<String, Set<String>> callsOf(String code) {
+        Map<String, Set<String>> called = new TreeMap<>();
+        Matcher method = Pattern.compile("(?ms)^( {4}| {8})[a-z][\\w \\[\\]]* (\\w+)\\([^()]*\\)"
+                + "\\s*(?:throws[^{]*)?\\{$(.*?)^\\1}$").matcher(code);
+        while (method.find()) {
+            Set<String> names = called.computeIfAbsent(method.group(2), key -> new TreeSet<>());
+            for (String call : lines(method.group(3), "\\b[a-z]\\w*(?=\\()")) {
+                names.add(call);
+            }
+        }
+        return called;
+    }
+
+    /** How many calls stand open at once, more than MOST_DEEP with recursion. */
+    private static int depth(Map<String, Set<String>> called, String name, int above) {
+        int most = 0;
+        if (above <= MOST_DEEP) {
+            for (String other : called.getOrDefault(name, Set.of())) {
+                most = Math.max(most, depth(called, other, above + 1));
+            }
+        }
+        return most + 1;
     }
 }

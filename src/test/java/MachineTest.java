@@ -8,6 +8,8 @@ public final class MachineTest extends Written {
         CHECKS.sentence("A block takes L cycles, and one in which it ends", MachineTest::blocks);
         CHECKS.sentence("a LOOP by list v times L, and one", MachineTest::byList);
         CHECKS.sentence("none below 1", MachineTest::noneBelowOne);
+        CHECKS.sentence("by modulo, too: one cycle, that in which it ends",
+                MachineTest::noneByModulo);
         CHECKS.sentence("By modulo with v above 0: v + STAGES - 1 passes through its rows",
                 MachineTest::byModulo);
         CHECKS.sentence("only slots whose p - stage is from 0 to v - 1 do something",
@@ -80,6 +82,25 @@ public final class MachineTest extends Written {
             mill.poke(address, address + 1);
         }
         return mill;
+    }
+
+    /** Neither a pass nor a further cycle, whatever its II, STAGES and latencies are. */
+    private static void noneByModulo() {
+        for (int count : new int[] {0, -1, -2, -100, MIN}) {
+            BundleMill staged = squares(count);
+            CHECKS.same("STAGES", staged.shape(1, 4), 4);
+            cycles("four stages, " + count, staged, 2 + 1 + 1);
+            CHECKS.same("turns", staged.result(2), 3);
+            CHECKS.same("outputs", staged.result(0), 0);
+            CHECKS.same("steps", staged.variable(0), 0);
+            BundleMill late = counted(machine(1, 1, 1, 8, 8, 8), count, mul(1, 11, 11));
+            CHECKS.same("II", late.shape(1, 3), 1);
+            cycles("latency 8, " + count, late, 2 + 1 + 1);
+            BundleMill trap = counted(new BundleMill(), count, div(1, 9, 9));
+            CHECKS.holds("by modulo", trap.shape(1, 3) > 0);
+            cycles("no trap, " + count, trap, 2 + 1 + 1);
+            CHECKS.same("trapped", trap.result(1), 0);
+        }
     }
 
     private static void byModulo() {
